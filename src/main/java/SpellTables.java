@@ -14,7 +14,6 @@ public final class SpellTables {
     private static final int MOST_TURNED = 12;
     private static final int MOST_RULES = 8;
     private static final int MOST_SIDE = 3;
-    private static final int MOST_WORD = 4;
     private static final int MOST_DRAWN = 5;
     private static final int MOST_TIMES = 40;
     // A remainder is a proper end of a sign: at most three of each sign are not empty, and the
@@ -267,7 +266,7 @@ public final class SpellTables {
             case 2:
                 return inked.size();
             case 3:
-                return Integer.bitCount(rules.marks);
+                return rules.markedRules();
             case 4:
                 return tablesRead;
             case 5:
@@ -280,11 +279,12 @@ public final class SpellTables {
     }
 
     public long digest() {
+        knowClashes();
+        knowPartings();
         long hash = hashRules(FIRST_HASH);
         hash = hashLine(hash, inked);
         hash = hashRows(hash);
         hash = hashClashes(hash);
-        knowPartings();
         hash = hashNumber(hash, partings.value(0));
         hash = hashNumber(hash, partings.value(1));
         hash = hashLine(hash, page);
@@ -318,7 +318,6 @@ public final class SpellTables {
     }
 
     private long hashClashes(long start) {
-        knowClashes();
         long hash = start;
         for (int what = 0; what <= 5; what++) {
             hash = hashNumber(hash, clashes.value(what));
@@ -415,12 +414,15 @@ public final class SpellTables {
         static final int BITS = 7;
         static final int ONES = 127;
 
+        // No loop, because nothing is asked more often than the size of a word.
         static int size(int word) {
-            int size = 0;
-            for (int rest = word >> BITS; rest > 0 && size < MOST_WORD; rest >>= BITS) {
-                size++;
+            if (word < 1 << (2 * BITS)) {
+                return word < 1 << BITS ? 0 : 1;
             }
-            return size;
+            if (word < 1 << (3 * BITS)) {
+                return 2;
+            }
+            return word < 1 << (4 * BITS) ? 3 : 4;
         }
 
         static int append(int word, int code) {
@@ -498,9 +500,9 @@ public final class SpellTables {
         }
 
         void copy(Line other) {
-            clear();
-            for (int place = 0; place < other.size; place++) {
-                add(other.items[place]);
+            size = other.size < items.length ? other.size : items.length;
+            for (int place = 0; place < size; place++) {
+                items[place] = other.items[place];
             }
         }
 
@@ -657,6 +659,10 @@ public final class SpellTables {
 
         boolean isMarked(int rule) {
             return has(rule) && ((marks >> rule) & 1) == 1;
+        }
+
+        int markedRules() {
+            return Integer.bitCount(marks);
         }
 
         void replace(Line newLefts, Line newRights) {
@@ -857,10 +863,12 @@ public final class SpellTables {
         private void start(Line signs) {
             words.clear();
             emptyFound = false;
-            for (int one = 0; one < signs.size(); one++) {
-                for (int other = 0; other < signs.size(); other++) {
-                    if (one != other && Word.begins(signs.at(other), signs.at(one))) {
-                        note(Word.behind(signs.at(other), signs.at(one)));
+            for (int shorter = 0; shorter < signs.size(); shorter++) {
+                int start = signs.at(shorter);
+                for (int longer = 0; longer < signs.size(); longer++) {
+                    int sign = signs.at(longer);
+                    if (shorter != longer && Word.begins(sign, start)) {
+                        note(Word.behind(sign, start));
                     }
                 }
             }
@@ -972,8 +980,8 @@ public final class SpellTables {
 
         private void startTexts(Line signs) {
             for (int shorter = 0; shorter < signs.size(); shorter++) {
+                int start = signs.at(shorter);
                 for (int longer = 0; longer < signs.size(); longer++) {
-                    int start = signs.at(shorter);
                     int sign = signs.at(longer);
                     if (shorter != longer && Word.begins(sign, start)) {
                         offered.clear();
