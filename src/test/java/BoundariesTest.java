@@ -131,6 +131,19 @@ public final class BoundariesTest {
         due("fault() of " + page, page.length(), x.fault());
         due("table() of " + page, page.split(",").length, x.table());
         due("the page behind it", 0, x.count(1));
+        dueRules(x, page);
+    }
+
+    private static void dueRules(SpellTables x, String page) {
+        String[] rules = page.split(",");
+        due("rules", rules.length, x.count(0));
+        for (int rule = 0; rule < rules.length; rule++) {
+            int number = rule;
+            dueAll("left side " + rule, place -> x.sign(number, 0, place),
+                    codes(rules[rule].replaceAll("[A-Z]", "")));
+            dueAll("right side " + rule, place -> x.sign(number, 1, place),
+                    codes(rules[rule].replaceAll("[a-z]", "")));
+        }
     }
 
     /** A page that is no table, and the place of its fault; its length if more could follow. */
@@ -221,6 +234,14 @@ public final class BoundariesTest {
         y.mark(2);
         y.mark(3);
         dueAll("the least clash is B', not BA", y::clashAt, codes("B'"));
+    }
+
+    private static void pageSize() {
+        sentence(0, "The page is a text of at most 56 characters.");
+        SpellTables x = withPage("z".repeat(55));
+        due("the last letter that it takes", 56, x.letter('z'));
+        refused(x, "the first that it does not take", FULL, () -> x.letter('z'));
+        due("its characters", 56, x.blank());
     }
 
     private static void pageAsTable() {
@@ -341,6 +362,7 @@ public final class BoundariesTest {
         dueAll("the shorter one, Z, not AA", withTable("aA,bAA,cZ,dZ")::clashAt, 'Z');
         dueAll("the first of AA and BB", withTable("aBB,bB,cAA,dA")::clashAt, 'A', 'A');
         dueAll("the first of BB and BA", withTable("aB,bBB,cBA,dA")::clashAt, 'B', 'A');
+        dueAll("the first of BC and AC", withTable("aBC,bB,cAC,dA,eC")::clashAt, 'A', 'C');
         SpellTables x = withTable("aAA,bAAA");
         dueAll("AA and AAA in either order", x::clashAt, codes("AAAAA"));
     }
@@ -409,6 +431,23 @@ public final class BoundariesTest {
         dueRemainders(withTable("aA,bABC,cB"), "C", "BC");
         dueRemainders(withTable("aA,bABC,cBC"), "", "BC");
         dueRemainders(withTable("aA,bABB,cB"), "", "B", "BB");
+    }
+
+    private static void returnValues() {
+        sentence(0, "UNKNOWN (-101): there is no such rule, place or remainder. OUTSIDE (-102):"
+                + " another argument is out of range. STATE (-103), FULL (-104): as described at"
+                + " the methods. NONE (-1) is not an error: there is no such thing.");
+        due("UNKNOWN", UNKNOWN, SpellTables.UNKNOWN);
+        due("OUTSIDE", OUTSIDE, SpellTables.OUTSIDE);
+        due("STATE", STATE, SpellTables.STATE);
+        due("FULL", FULL, SpellTables.FULL);
+        due("NONE", NONE, SpellTables.NONE);
+        SpellTables x = withTable("aA,bAB");
+        due("no such rule", UNKNOWN, x.rule(2, 0));
+        due("no such place", UNKNOWN, x.sign(1, 1, 2));
+        due("no such remainder", UNKNOWN, x.ahead(1));
+        due("another argument", OUTSIDE, x.rule(1, 5));
+        due("no such thing", NONE, x.clash(1));
     }
 
     private static void firstError() {
@@ -678,12 +717,20 @@ public final class BoundariesTest {
         due("characters of the page", 0, x.count(1));
         due("characters of the text", 0, x.count(2));
         due("marked rules", 0, x.count(3));
-        due("its sign", UNKNOWN, x.sign(0, 1, 1));
+        dueRules(x, "zZ");
         due("the second rule", UNKNOWN, x.rule(1, 0));
-        write(x, EIGHT);
+        write(x, LONGEST);
         due("table() of eight rules", 8, x.table());
         due("marked rules", 0, x.count(3));
         due("rule(7, 2)", 0, x.rule(7, 2));
+        dueRules(x, LONGEST);
+        SpellTables y = withTable("aA,bA,cB");
+        dueAll("the least clash of the old table", y::clashAt, 'A');
+        due("its parting", 1, y.parting(1));
+        write(y, "aA,bB,cB");
+        due("table()", 3, y.table());
+        due("the parting of the new table", 2, y.parting(1));
+        dueAll("its least clash", y::clashAt, 'B');
     }
 
     private static void noTable() {
@@ -1168,6 +1215,10 @@ public final class BoundariesTest {
         }
         dueAll("ONE", place -> x.clashing(0, place), 0);
         dueAll("OTHER", place -> x.clashing(1, place), 1, 2, 3);
+        x.mark(1);
+        dueAll("clean by a mark: ONE", place -> x.clashing(0, place));
+        dueAll("clean by a mark: OTHER", place -> x.clashing(1, place));
+        x.mark(1);
         for (int which : new int[] {-1, 2, LEAST, MOST}) {
             due("no rules: clashing(" + which + ", 0)", OUTSIDE, none.clashing(which, 0));
             due("clean: clashing(" + which + ", 0)", OUTSIDE, clean.clashing(which, 0));
@@ -1198,7 +1249,6 @@ public final class BoundariesTest {
         SpellTables x = withTable("aA,bAB,cABC");
         x.mark(2);
         // B, C', BC'
-        due("remainders", 3, x.clash(5));
         dueAll("remainder 0", place -> x.aheadAt(0, place), codes("B"));
         dueAll("remainder 1", place -> x.aheadAt(1, place), codes("C'"));
         dueAll("remainder 2", place -> x.aheadAt(2, place), codes("BC'"));
@@ -1255,19 +1305,38 @@ public final class BoundariesTest {
         due("a set after drop()", 1, noSet.parting(1));
     }
 
-    /** The characters of all rows, with draws that cannot overflow, from the rules' sizes. */
-    private static int drawnCharacters(int times, int seed, int... sizes) {
+    /** The random rows as texts of digits, with draws that cannot overflow. */
+    private static String[] drawnRows(int times, int seed, int rules) {
         BigInteger drawn = BigInteger.valueOf(seed);
-        int characters = 0;
+        String[] rows = new String[times];
         for (int time = 0; time < times; time++) {
             drawn = next(drawn);
-            int rules = 1 + draw(drawn, 5);
-            for (int place = 0; place < rules; place++) {
+            int size = 1 + draw(drawn, 5);
+            rows[time] = "";
+            for (int place = 0; place < size; place++) {
                 drawn = next(drawn);
-                characters += sizes[draw(drawn, sizes.length)];
+                rows[time] += draw(drawn, rules);
+            }
+        }
+        return rows;
+    }
+
+    private static int drawnCharacters(int times, int seed, int... sizes) {
+        int characters = 0;
+        for (String row : drawnRows(times, seed, sizes.length)) {
+            for (char rule : row.toCharArray()) {
+                characters += sizes[rule - '0'];
             }
         }
         return characters;
+    }
+
+    private static int drawnLike(String pattern, int times, int seed, int rules) {
+        int found = 0;
+        for (String row : drawnRows(times, seed, rules)) {
+            found += row.matches(pattern) ? 1 : 0;
+        }
+        return found;
     }
 
     private static BigInteger next(BigInteger drawn) {
@@ -1322,14 +1391,26 @@ public final class BoundariesTest {
         due("always the same row", 40, clean.trial(40, 7, 0));
         due("never another row", 0, clean.trial(40, 7, 1));
         due("never stuck", 0, clean.trial(40, 7, 2));
-        SpellTables same = withTable("aA,bA,cA,dA,eA,fA,gA,hA");
-        due("one or the other", 40, same.trial(40, 7, 0) + same.trial(40, 7, 1));
-        due("never stuck", 0, same.trial(40, 7, 2));
-        SpellTables stuck = withTable("aA,bAB,cBC");
-        int all = stuck.trial(40, 7, 0) + stuck.trial(40, 7, 1) + stuck.trial(40, 7, 2);
-        due("each time is one of the three", 40, all);
-        due("some are stuck", 1, stuck.trial(40, 7, 2) > 0 ? 1 : 0);
-        due("none comes out as another row", 0, stuck.trial(40, 7, 1));
+        // each comes out as 0, 0, .. 0
+        dueTrial("aA,bA", 2, "0+", "0*1[01]*", "");
+        // AA as often as possible, then A
+        dueTrial("aAA,bA", 2, "0*1?", "0*1[01]+", "");
+        // A before BC is taken for AB, and C stands nowhere
+        dueTrial("aA,bAB,cBC", 3, "(?!.*02).*", "", ".*02.*");
+    }
+
+    /** The rows that come out the same, as another one, and those that are stuck. */
+    private static void dueTrial(String page, int rules, String... patterns) {
+        SpellTables x = withTable(page);
+        for (int seed : new int[] {0, 3, 7, MOST}) {
+            for (int times : new int[] {1, 2, 40}) {
+                for (int what = 0; what < patterns.length; what++) {
+                    due(page + ": trial(" + times + ", " + seed + ", " + what + ")",
+                            drawnLike(patterns[what], times, seed, rules),
+                            x.trial(times, seed, what));
+                }
+            }
+        }
     }
 
     private static void trialErrors() {
@@ -1460,7 +1541,9 @@ public final class BoundariesTest {
 
     private static void dueDigest(String state, SpellTables x, String page) {
         write(x, page);
-        due("digest() of " + state, digestOf(x, page), x.digest());
+        long first = x.digest();
+        due("digest() of " + state, digestOf(x, page), first);
+        due("digest() of " + state + " again", first, x.digest());
     }
 
     private static void digests() {
@@ -1517,6 +1600,7 @@ public final class BoundariesTest {
         rightSides();
         signs();
         comparedByCodes();
+        pageSize();
         pageAsTable();
         rows();
         orderOfRows();
@@ -1531,6 +1615,7 @@ public final class BoundariesTest {
         remaindersOfTwoSigns();
         remaindersOfSigns();
         remaindersOfRemainders();
+        returnValues();
         firstError();
         refusedCalls();
         placesFromNought();

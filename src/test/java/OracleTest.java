@@ -17,8 +17,10 @@ import java.util.TreeSet;
  * straight from the document with texts and sets; every answer of the two must be the same.
  */
 public final class OracleTest {
-    private static final int RUNS = 700;
+    private static final int RUNS = 850;
+    // what an object answers after 512 calls is free; one step makes fewer than 100
     private static final int CALLS = 512;
+    private static final int STEP = 100;
     private static final int SHORT = 8;
 
     // tables whose least clash is long; they were searched for
@@ -616,7 +618,7 @@ public final class OracleTest {
             for (int what = 0; what <= 5; what++) {
                 same("clash(" + what + ")", made.clash(what), oracle.clash(what));
             }
-            longest = Math.max(longest, made.clash(1));
+            keepLongest();
             same("digest()", made.digest(), oracle.digest());
             for (int rule = signs.length - 1; rule >= 0; rule--) {
                 same("mark(" + rule + ")", made.mark(rule), oracle.mark(rule));
@@ -624,14 +626,21 @@ public final class OracleTest {
             }
         }
 
+        void keepLongest() {
+            calls++;
+            longest = Math.max(longest, made.clash(1));
+        }
+
         void shortClashes() {
             if (capitals.length() > 3) return;
             String due = Oracle.shortClash(oracle.signs());
             StringBuilder got = new StringBuilder();
-            for (int place = 0; place < made.clash(1); place++) {
+            int size = made.clash(1);
+            for (int place = 0; place < size; place++) {
                 got.append((char) made.clashAt(place));
             }
-            boolean found = made.clash(0) == 0 && got.length() <= SHORT;
+            calls += 1 + got.length();
+            boolean found = size > 0 && size <= SHORT;
             if (due == null ? found : !due.equals(got.toString())) {
                 wrong++;
                 System.out.println("run " + number + ":" + story + ": the least clash of "
@@ -643,10 +652,10 @@ public final class OracleTest {
     public static void main(String[] args) {
         for (int number = 0; number < RUNS && wrong < 5; number++) {
             Run run = new Run(number);
-            while (run.calls < CALLS && wrong < 5) {
+            while (run.calls + STEP <= CALLS && wrong < 5) {
                 run.change();
                 run.ask();
-                longest = Math.max(longest, run.made.clash(1));
+                run.keepLongest();
                 if (run.random.nextInt(8) == 0) run.shortClashes();
             }
         }
